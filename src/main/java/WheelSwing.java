@@ -571,9 +571,9 @@ public final class WheelSwing {
         }
 
         /**
-         * The whole number nearest the root of (units times 2 to the 52nd), of which guess is near.
-         * That product and the square are too big for a long, but their difference is not: wrapped
-         * around, it comes out right.
+         * The whole number nearest the root of (units times 2 to the 52nd). Newton's guess comes from above:
+         * rounded, it is the root cut to a whole number or little more, never less. The product and the
+         * square are too big for a long, but their difference is not: wrapped around, it comes out right.
          */
         private static long roundedRoot(long units, long guess) {
             long root = guess;
@@ -581,10 +581,6 @@ public final class WheelSwing {
             for (int i = 0; i < MOST_STEPS && rest < 0; i++) {
                 root--;
                 rest += 2 * root + 1;
-            }
-            for (int i = 0; i < MOST_STEPS && rest > 2 * root; i++) {
-                rest -= 2 * root + 1;
-                root++;
             }
             return rest > root ? root + 1 : root;
         }
