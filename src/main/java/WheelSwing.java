@@ -233,12 +233,23 @@ public final class WheelSwing {
             case 3:
                 return Doubles.bits(stand.qy);
             case 4:
-                return stand.vy == 0.0 ? NONE : Doubles.bits(stand.vx / stand.vy);
+                return stand.vy == 0.0 ? NONE : leanBits();
             case 5:
                 return Doubles.bits(stand.roadX(of));
             default:
                 return Doubles.bits(stand.roadY(of));
         }
+    }
+
+    /**
+     * The bits of a lean, after a look that vy is not 0. Of all that is told it alone may be -0.0: vx, a
+     * difference, is 0.0 on a plumb upright, so that one stood upside down leans by 0.0 over less than nothing.
+     */
+    private long leanBits() {
+        if (stand.vx == 0.0) {
+            return stand.vy < 0.0 ? Doubles.SIGN : 0L;
+        }
+        return Doubles.bits(stand.vx / stand.vy);
     }
 
     /** What of the pose is told of the centre, the roll and the spring: 7 to 10. */
@@ -585,10 +596,10 @@ public final class WheelSwing {
             return rest > root ? root + 1 : root;
         }
 
+        /** The bits of a double that is not -0.0, which no comparison tells from 0.0. */
         private static long bits(double x) {
             if (x == 0.0) {
-                // Only what it divides into tells -0.0 from 0.0: an infinity, never NaN.
-                return 1.0 / x < 0.0 ? SIGN : 0L;
+                return 0L;
             }
             double part = x < 0.0 ? -x : x;
             long exponent = BIAS;

@@ -13,6 +13,7 @@ public final class RefusalTest {
                 taken(call, with(call, n, least));
                 taken(call, with(call, n, most));
             }
+            refusedMoreThanOnce(call);
         }
         refused(Calls.HANG, new int[] {0, 0, 300, 0, 0, 300, 400, 300, 0});
         refused(Calls.LOCK, new int[] {0, 1, 0});
@@ -49,6 +50,15 @@ public final class RefusalTest {
         return x;
     }
 
+    private static Model usedModel() {
+        Model x = new Model();
+        x.weight(new int[] {1000, 400, 20});
+        x.push(new int[] {100, 600});
+        x.shim(7);
+        x.reading(10, 20);
+        return x;
+    }
+
     private static void refused(Calls call, int[] numbers) {
         WheelSwing x = used();
         long before = x.digest();
@@ -58,8 +68,29 @@ public final class RefusalTest {
     }
 
     private static void taken(Calls call, int[] numbers) {
+        WheelSwing x = used();
+        Model model = usedModel();
         String told = call + java.util.Arrays.toString(numbers);
-        due.holds(told + " is taken", call.ask(used(), numbers) != call.bad);
+        long answer = call.ask(x, numbers);
+        due.holds(told + " is taken", answer != call.bad);
+        due.same(told, answer, call.ask(model, numbers));
+        due.same(told + ", then digest", x.digest(), model.digest());
+    }
+
+    /** The first and the last number wrong at once, and all of them. */
+    private static void refusedMoreThanOnce(Calls call) {
+        if (call.numbers() == 0) {
+            return;
+        }
+        int last = call.numbers() - 1;
+        int[] both = with(call, last, call.most(last) + 1);
+        both[0] = call.least(0) - 1;
+        refused(call, both);
+        int[] all = new int[call.numbers()];
+        java.util.Arrays.fill(all, Integer.MIN_VALUE);
+        refused(call, all);
+        java.util.Arrays.fill(all, Integer.MAX_VALUE);
+        refused(call, all);
     }
 
     private static void fullComesAfterBad() {
