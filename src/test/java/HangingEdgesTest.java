@@ -247,6 +247,8 @@ public final class HangingEdgesTest {
         due.tells("yet iy", x.pose(0, 300, 8), 660.0);
         x.wheel(0, -100, 481);
         due.tells("roll of rx 1 beyond ix", x.pose(0, 300, 9), 200.0 + (0.0 - 881.0) * 460.0 / -1.0);
+        x.wheel(0, -100, 460);
+        due.tells("roll of rx 20 short of ix", x.pose(0, 300, 9), 200.0 + (0.0 - 860.0) * 460.0 / 20.0);
         x.wheel(0, -100, -400);
         due.tells("roll of rx 0", x.pose(0, 300, 9), 200.0);
         x.wheel(0, 360, 0);

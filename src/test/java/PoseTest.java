@@ -7,6 +7,7 @@ public final class PoseTest {
 
     public static void main(String[] args) {
         plumb();
+        aside();
         upsideDown();
         level();
         parallel();
@@ -41,6 +42,17 @@ public final class PoseTest {
         due.same("no roll, the centre being over rx", x.pose(0, 300, 9), -1);
         tells(hung(-80, 940, -1), 300, 400, 300, -80, 440);
         due.holds("lean of side -1", Math.abs(asDouble(hung(-80, 940, -1).pose(0, 300, 4)) + 24.0 / 7.0) < 1e-12);
+    }
+
+    /** The plumb one moved 100 out and 50 down: all that is told moves with it, but for the roll. */
+    private static void aside() {
+        WheelSwing x = new WheelSwing();
+        x.hang(0, 20, 890, 100, -50, 500, 500, 500, 1);
+        x.spring(0, 60, -170, 500);
+        double roll = 150.0 + (0.0 - 600.0) * 460.0 / 380.0;
+        tells(x, 250, 500, 250, 500, 750, 0.0, 600, 150, 980, 610, roll, Math.sqrt(240 * 240 + 270 * 270));
+        x.spring(0, 60, -170, 100);
+        due.tells("length to a tenth of the arm", x.pose(0, 250, 10), Math.sqrt(80 * 80 + 150 * 150));
     }
 
     private static double asDouble(long bits) {
