@@ -18,6 +18,7 @@ public final class HangingEdgesTest {
         lockedTellsNothing();
         leanIsNoneLevel();
         leanUpsideDown();
+        leanPlumbWhereRounded();
         noCentre();
         noRoll();
         roadPointAtItsBounds();
@@ -215,6 +216,21 @@ public final class HangingEdgesTest {
     private static void leanUpsideDown() {
         due.same("lean of 0.0", hung(-80, 940, 0, 0, 500, 500, 500).pose(0, 300, 4), 0L);
         due.same("lean of -0.0", hung(880, -340, 0, 0, 500, 500, 500).pose(0, 300, 4), 1L << 63);
+    }
+
+    /** vx is 0.0 there, but vy, being rounded, is not just 1.0 or -1.0. */
+    private static void leanPlumbWhereRounded() {
+        WheelSwing x = hung(304, 178, 0, 0, 160, 400, 50);
+        due.tells("upright, P below Q", x.pose(0, 0, 2), asDouble(x.pose(0, 0, 0)));
+        due.holds("vy a last bit short of 1.0", asDouble(x.pose(0, 0, 3)) < 50.0);
+        due.same("lean of 0.0", x.pose(0, 0, 4), 0L);
+        WheelSwing down = hung(433, -6, 0, 0, 55, 400, 50);
+        due.holds("vy a last bit beyond -1.0", asDouble(down.pose(0, 0, 3)) < -50.0);
+        due.same("lean of -0.0", down.pose(0, 0, 4), 1L << 63);
+        WheelSwing shy = new WheelSwing();
+        shy.hang(0, 278, 111, 167, -53, 290, 159, 122, -1);
+        due.holds("vy a last bit short of -1.0", asDouble(shy.pose(0, -53, 3)) > -53.0 - 122.0);
+        due.same("lean of -0.0 there too", shy.pose(0, -53, 4), 1L << 63);
     }
 
     /** "THE CENTRE: .. none, if n is 0": arms of one direction. "THE ROLL: none without a CENTRE". */

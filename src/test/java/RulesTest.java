@@ -1,4 +1,6 @@
+import java.lang.reflect.Field;
 import java.lang.reflect.Member;
+import java.lang.reflect.Method;
 import java.lang.reflect.Modifier;
 import java.nio.file.Files;
 import java.nio.file.Path;
@@ -19,6 +21,7 @@ public final class RulesTest {
 
     public static void main(String[] args) throws Exception {
         face();
+        sizes();
         source();
         due.end();
     }
@@ -52,12 +55,33 @@ public final class RulesTest {
         return hidden;
     }
 
+    /** Rule 11, and rule 5's static fields. */
+    private static void sizes() {
+        List<Class<?>> classes = new ArrayList<>(List.of(WheelSwing.class.getDeclaredClasses()));
+        classes.add(WheelSwing.class);
+        due.holds("some twelve classes at most", classes.size() <= 12);
+        for (Class<?> c : classes) {
+            int kept = 0;
+            for (Field f : c.getDeclaredFields()) {
+                boolean isStatic = Modifier.isStatic(f.getModifiers());
+                kept += isStatic ? 0 : 1;
+                due.holds(f + " is final, if static", !isStatic || Modifier.isFinal(f.getModifiers()));
+            }
+            due.holds(c + " keeps some twenty fields at most", kept <= 20);
+            for (Method m : c.getDeclaredMethods()) {
+                boolean isTold = Modifier.isPublic(m.getModifiers());
+                due.holds(m + " takes seven parameters at most", isTold || m.getParameterCount() <= 7);
+            }
+        }
+    }
+
     private static void source() throws Exception {
         String text = Files.readString(Path.of("src/main/java/WheelSwing.java"));
         for (String word : BARRED) {
             String code = text.replaceAll("(?s)/\\*.*?\\*/", "").replaceAll("//[^\n]*", "");
             due.holds("the source is without " + word, !code.contains(word));
         }
+        due.holds("the source's signs are 1 to 127", text.chars().allMatch(sign -> sign >= 1 && sign <= 127));
         Matcher doubles = Pattern.compile("static final (double|float)").matcher(text);
         due.holds("no constant is a double", !doubles.find());
         Matcher made = Pattern.compile("\\bnew ").matcher(text);
